@@ -153,15 +153,16 @@ public final class TypeStarts {
 
     public int go(int seed) {
         int z = seed;
-        int made = 0;
-        int able = run.countAble();
-        while (able > 0 && made < MOST_STEPS) {
+        for (int made = 0; made < MOST_STEPS; made++) {
+            int able = run.ableThreads();
+            int n = Integer.bitCount(able);
+            if (n == 0) {
+                return made;
+            }
             z = z * 1664525 + 1013904223;
-            makeStep(run.ableAt((z >>> 8) % able));
-            made++;
-            able = run.countAble();
+            makeStep(memberAt(able, (z >>> 8) % n));
         }
-        return made;
+        return MOST_STEPS;
     }
 
     public int steps() {
@@ -251,6 +252,20 @@ public final class TypeStarts {
             return STATE;
         }
         return allRuns.outcomes.countStuck() == 0 || bodies.someNeedsItself() ? 1 : 0;
+    }
+
+    /** Of a set of THREADS, a bit for each, the one at a place; NONE, if there are fewer. */
+    private static int memberAt(int set, int position) {
+        int before = 0;
+        for (int thread = 0; thread < THREADS; thread++) {
+            if ((set >> thread & 1) != 0) {
+                if (before == position) {
+                    return thread;
+                }
+                before++;
+            }
+        }
+        return NONE;
     }
 
     private boolean isFound() {
@@ -606,27 +621,15 @@ public final class TypeStarts {
             return awaited(thread) == NONE ? HAS_STEP : WAITING;
         }
 
-        int countAble() {
+        /** The THREADS that have a STEP, a bit for each. */
+        int ableThreads() {
             int able = 0;
             for (int thread = 0; thread < bodies.threadCount; thread++) {
                 if (endOf(thread) == HAS_STEP) {
-                    able++;
+                    able |= 1 << thread;
                 }
             }
             return able;
-        }
-
-        int ableAt(int position) {
-            int before = 0;
-            for (int thread = 0; thread < bodies.threadCount; thread++) {
-                if (endOf(thread) == HAS_STEP) {
-                    if (before == position) {
-                        return thread;
-                    }
-                    before++;
-                }
-            }
-            return 0;
         }
 
         /** The STEP of a THREAD that has one. */
@@ -991,17 +994,15 @@ public final class TypeStarts {
         private static final int MOST_ROUNDS = MOST_POINTS * (THREADS + 1);
         final Points points = new Points();
         final Outcomes outcomes = new Outcomes();
-        private final Bodies bodies;
         private final Run here;
         private int depth = 0;
 
-        // The way to where the search is: POINTS, which THREAD is next there, and whose STEPS.
+        // The way to where the search is: POINTS, the THREADS still to be tried there, whose STEPS.
         private final int[] trail = new int[MOST_STEPS + 1];
-        private final int[] nextThread = new int[MOST_STEPS + 1];
+        private final int[] untried = new int[MOST_STEPS + 1];
         private final int[] way = new int[MOST_STEPS + 1];
 
         Search(Types types, Bodies bodies) {
-            this.bodies = bodies;
             this.here = new Run(types, bodies);
         }
 
@@ -1013,18 +1014,16 @@ public final class TypeStarts {
             boolean fits = arrive(from);
             for (int round = 0; round < MOST_ROUNDS && fits && depth > 0; round++) {
                 int last = depth - 1;
-                int thread = nextThread[last];
-                nextThread[last] = thread + 1;
-                if (thread >= bodies.threadCount) {
+                int thread = memberAt(untried[last], 0);
+                if (thread == NONE) {
                     depth = last;
                     continue;
                 }
+                untried[last] ^= 1 << thread;
+                way[last] = thread;
                 here.unpack(points.rows, trail[last] * Points.WIDTH);
-                if (here.endOf(thread) == HAS_STEP) {
-                    way[last] = thread;
-                    here.step(thread);
-                    fits = arrive(here);
-                }
+                here.step(thread);
+                fits = arrive(here);
             }
             return fits ? outcomes.count : FULL;
         }
@@ -1038,12 +1037,13 @@ public final class TypeStarts {
             if (point == FULL) {
                 return false;
             }
-            if (run.countAble() == 0) {
+            int able = run.ableThreads();
+            if (able == 0) {
                 return outcomes.add(run.packOutcome(), way, depth);
             }
             if (depth <= MOST_STEPS) {
                 trail[depth] = point;
-                nextThread[depth] = 0;
+                untried[depth] = able;
                 depth++;
             }
             return true;

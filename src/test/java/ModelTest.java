@@ -105,7 +105,7 @@ public final class ModelTest {
     }
 
     private void addType() {
-        int sort = below(20) == 0 ? near(3) : below(2) == 0 ? 0 : 1 + below(2);
+        int sort = below(20) == 0 ? near(3) : below(2) == 0 ? 0 : below(4) == 0 ? 1 : 2;
         int parent = sort != 0 && below(20) != 0 || below(3) == 0 ? -1 : near(types);
         int answer = model.type(sort, parent);
         same("type(" + sort + ", " + parent + ")", real.type(sort, parent), answer);
@@ -120,9 +120,9 @@ public final class ModelTest {
 
     private void build(int mostTypes, int mostThreads) {
         int draw = below(100);
-        if (draw < 15) {
+        if (draw < 13) {
             if (types < mostTypes || below(20) == 0) addType();
-        } else if (draw < 25) {
+        } else if (draw < 27) {
             int t = near(types);
             int f = below(4) == 0 ? near(types) : below(Math.max(1, t));
             same("face(" + t + ", " + f + ")", real.face(t, f), model.face(t, f));

@@ -185,7 +185,9 @@ public final class PromisesTest {
 
     private static void clear() {
         TypeStarts x = ring();
-        x.field(0);
+        x.clear();
+        x = classes(2, 1);
+        x.action(10, 4, 1, 0, true);
         x.go(1);
         due("clear()", x.clear(), 2);
         due("clear()", x.clear(), 0);
@@ -254,6 +256,7 @@ public final class PromisesTest {
     }
 
     private static void begin() {
+        beginInTheMiddle();
         TypeStarts x = ring();
         x.action(0, 1, 0, 7, false);
         due("begin()", x.begin(), 0);
@@ -267,6 +270,24 @@ public final class PromisesTest {
         due("end(0)", x.end(0), 0);
         due("start(0, 0)", x.start(0, 0), NONE);
         due("go(4)", x.go(4), made);
+    }
+
+    /** How far a BODY was and its LATEST are gone, too. */
+    private static void beginInTheMiddle() {
+        TypeStarts x = classes(1, 1);
+        x.action(0, 1, 0, 5, false);
+        x.action(0, 0, 0, 0, false);
+        x.action(10, 5, 0, 5, false);
+        x.action(10, 0, 0, 0, false);
+        turns(x, 0, 0, 0, 0, 0, 0, 0);
+        row(x, 3, 0, 3, 5);
+        due("begin()", x.begin(), 7);
+        turns(x, 0, 0);
+        row(x, 0, 0, 0, 0);
+        turns(x, 0, 0);
+        due("begin()", x.begin(), 4);
+        turns(x, 0, 0, 0, 0);
+        due("value(0)", x.value(0), 5);
     }
 
     private static void turn() {
@@ -290,6 +311,44 @@ public final class PromisesTest {
         due("turn(1)", x.turn(1), STATE);
         waitInList();
         failedInList();
+        wholeList();
+    }
+
+    /** All of a LIST BEGINS in its order; what is DONE, or UNDER WAY here, is passed over. */
+    private static void wholeList() {
+        TypeStarts x = new TypeStarts();
+        x.type(0, -1);
+        x.type(2, -1);
+        x.type(2, -1);
+        x.type(2, -1);
+        x.type(0, 0);
+        for (int f = 1; f <= 3; f++) x.face(4, f);
+        x.thread();
+        x.action(2, 2, 4, 0, false);
+        x.action(10, 2, 1, 0, false);
+        x.action(10, 2, 2, 0, false);
+        due("go(0)", x.go(0), 19);
+        int[] begun = {1, 2, 4, 0, 3};
+        int next = 0;
+        for (int i = 0; i < 11; i++) {
+            if (x.log(i, 1) == 0) due("the one that begins", x.log(i, 2), begun[next++]);
+        }
+        due("that many began", next, 5);
+        x.clear();
+        x.type(0, -1);
+        x.type(2, -1);
+        x.type(2, -1);
+        x.type(0, 0);
+        x.face(3, 1);
+        x.face(3, 2);
+        x.thread();
+        x.action(10, 2, 3, 0, false);
+        turns(x, 0, 0, 0, 0, 0, 0, 0, 0, 0, 0);
+        row(x, 1, 0, 0, 0);
+        row(x, 3, 0, 0, 1);
+        row(x, 5, 0, 0, 2);
+        due("start(0, 0)", x.start(0, 0), 3);
+        due("start(0, 1)", x.start(0, 1), NONE);
     }
 
     private static void waitInList() {
@@ -386,7 +445,7 @@ public final class PromisesTest {
         row(x, 6, 0, 4, 5);
     }
 
-    /** 1 becomes 3 in the lowest BODY, and goes through an ACTION, a LIST and the THREAD's BODY. */
+    /** 1 becomes 3 in the highest BODY, and goes through an ACTION, a LIST and the THREAD's BODY. */
     private static void throwThroughStarts() {
         TypeStarts x = classes(2, 1);
         x.type(0, 1);
@@ -402,7 +461,14 @@ public final class PromisesTest {
         row(x, 6, 0, 5, 3);
         due("end(0)", x.end(0), 5);
         due("start(0, 0)", x.start(0, 0), NONE);
-        x.clear();
+        x = new TypeStarts();
+        for (int t = 0; t < 6; t++) x.type(0, t - 1);
+        x.thread();
+        x.action(0, 4, 1, 0, false);
+        x.action(10, 2, 5, 0, false);
+        due("go(0), six STARTS fail in one STEP", x.go(0), 8);
+        for (int t = 0; t < 6; t++) due("state(" + t + ")", x.state(t), 3);
+        due("end(0)", x.end(0), 5);
         x = classes(2, 1);
         x.action(0, 0, 0, 0, false);
         x.action(0, 4, 2, 0, false);
@@ -568,6 +634,7 @@ public final class PromisesTest {
     }
 
     private static void value() {
+        fieldBehindAction();
         TypeStarts x = classes(1, 1);
         x.type(0, 0);
         x.action(0, 1, 1, -9, false);
@@ -581,6 +648,20 @@ public final class PromisesTest {
         turns(x, 0, 0);
         due("value(0)", x.value(0), 9);
         due("state(1), the FIELD's own TYPE alone has begun", x.state(1), 0);
+    }
+
+    /** What an ACTION asks for is told by the FIELDS that there are, not by those that there were. */
+    private static void fieldBehindAction() {
+        TypeStarts x = new TypeStarts();
+        x.type(0, -1);
+        x.thread();
+        x.action(10, 1, 0, 4, false);
+        x.go(0);
+        due("end(0)", x.end(0), 7);
+        x.field(0);
+        x.go(0);
+        due("end(0)", x.end(0), 2);
+        due("value(0)", x.value(0), 4);
     }
 
     private static void end() {
@@ -701,6 +782,14 @@ public final class PromisesTest {
         listIs(x, 5, 4, 0, 2, 3);
         x.face(4, 1);
         listIs(x, 4, 0);
+        x.clear();
+        x.type(2, -1);
+        x.type(2, -1);
+        x.type(0, -1);
+        x.face(1, 0);
+        x.face(2, 0);
+        x.face(2, 1);
+        listIs(x, 2, 0, 1);
         // What its PARENT has of FACES is told of the PARENT, not of it.
         x.clear();
         x.type(2, -1);
@@ -884,6 +973,8 @@ public final class PromisesTest {
         turns(x, 2);
         due("search() of 10 * 15 * 20 POINTS", x.search(), 1);
         due("points()", x.points(), 3000);
+        for (int k = 0; k < 42; k++) due("witness(0, " + k + ")", x.witness(0, k), k < 9 ? 0 : k < 23 ? 1 : 2);
+        due("witness(0, 42)", x.witness(0, 42), NONE);
         x = pointsJustTooMany();
         due("search() of 3001 POINTS", x.search(), FULL);
         turns(x, 0);
@@ -968,6 +1059,32 @@ public final class PromisesTest {
         pointsOfLists();
         pointsOfLatest();
         pointsOfLeaves();
+        pointsOfFailures();
+    }
+
+    /** Of a TYPE that FAILED it does not count where it was when it did. */
+    private static void pointsOfFailures() {
+        TypeStarts x = classes(1, 2);
+        x.type(0, 0);
+        x.action(0, 2, 1, 0, true);
+        x.action(0, 4, 1, 0, false);
+        x.action(1, 4, 1, 0, false);
+        x.action(10, 2, 0, 0, true);
+        x.action(11, 2, 1, 0, true);
+        // By THREAD 0 alone 1 fails in its BODY, and 0 behind it; by THREAD 1 alone 0 fails, and
+        // so 1 in its LIST. THREAD 1 is ahead of its ACTION, if nothing else is said.
+        int bothNew = 1;
+        int zeroBegun = 2;
+        int oneBegunElsewhereToo = 2;
+        int oneBegunAbove = 2;
+        int oneFailed = 3;
+        int zeroFailedBehindIt = 3 + 3;
+        int oneBegunFirst = 1;
+        int zeroBegunFromThere = 3;
+        int bothFailedAndThread0Ahead = 2;
+        x.search();
+        due("points()", x.points(), bothNew + zeroBegun + oneBegunElsewhereToo + oneBegunAbove + oneFailed
+            + zeroFailedBehindIt + oneBegunFirst + zeroBegunFromThere + bothFailedAndThread0Ahead);
     }
 
     /** A LIST whose PARENT BEGAN from there is not where one is that found it DONE. */
@@ -1103,6 +1220,7 @@ public final class PromisesTest {
         x.go(0);
         x.search();
         witnessIs(x, 0);
+        longestWitness();
         x = classes(1, 2);
         x.action(10, 1, 0, 5, false);
         x.action(11, 1, 0, 4, false);
@@ -1110,6 +1228,23 @@ public final class PromisesTest {
         // 4 is last: THREAD 0 first; 5 is last: THREAD 0 starts the TYPE, then lets 1 WRITE.
         witnessIs(x, 0, 0, 0, 0, 0, 0, 1, 1);
         witnessIs(x, 1, 0, 0, 0, 1, 0, 0, 1);
+    }
+
+    /** THREAD 0 starts all TYPES, the others pass: 55 * 7 * 7 POINTS, and no RUN has more STEPS. */
+    private static void longestWitness() {
+        TypeStarts x = classes(6, 3);
+        for (int t = 0; t < 6; t++) {
+            for (int i = 0; i < 5; i++) x.action(t, i == 4 && t == 4 ? 2 : 3, 5, 0, false);
+        }
+        for (int i = 0; i < 5; i++) {
+            x.action(10, 2, i, 0, false);
+            x.action(11, 3, 0, 0, false);
+            x.action(12, 3, 0, 0, false);
+        }
+        due("search()", x.search(), 1);
+        due("points()", x.points(), 55 * 7 * 7);
+        for (int k = 0; k < 66; k++) due("witness(0, " + k + ")", x.witness(0, k), k < 54 ? 0 : k < 60 ? 1 : 2);
+        due("witness(0, 66)", x.witness(0, 66), NONE);
     }
 
     private static void holds() {
