@@ -25,7 +25,7 @@ public final class RoomTest {
         warmUp();
         long before = made();
         searchOften();
-        check("a run of 256 searches", made() - before, ROOM / 20);
+        check("a run of 235 searches", made() - before, ROOM / 20);
         before = made();
         newObjects();
         check("512 new objects", made() - before, ROOM / 2);
