@@ -37,9 +37,7 @@ public final class TypeStarts {
     private final Types types = new Types();
     private final Bodies bodies = new Bodies(types);
     private final Run run = new Run(types, bodies);
-
-    // Made by the first search(): most of the room is its own, and many objects never search.
-    private Search allRuns = null;
+    private final Search allRuns = new Search(types, bodies);
 
     // How many OUTCOMES were found; NONE: not looked for since the last change; FULL: too many.
     private int searched = NONE;
@@ -221,13 +219,9 @@ public final class TypeStarts {
     }
 
     public int search() {
-        if (searched != NONE) {
-            return searched;
+        if (searched == NONE) {
+            searched = allRuns.explore(run);
         }
-        if (allRuns == null) {
-            allRuns = new Search(types, bodies);
-        }
-        searched = allRuns.explore(run);
         return searched;
     }
 
@@ -269,7 +263,7 @@ public final class TypeStarts {
     }
 
     private boolean isFound() {
-        return searched >= 0 && allRuns != null;
+        return searched >= 0;
     }
 
     private void settle() {
@@ -855,13 +849,16 @@ public final class TypeStarts {
         static final int WIDTH = 3;
         static final int OLD = -1;
         private static final int SLOT_BITS = 12, SLOTS = 1 << SLOT_BITS;
+
+        // Four slots are kept in one long: what counts in the room is elements, not their width.
+        private static final int SLOTS_TOGETHER = 4, SLOT_WIDTH = 16;
         int count = 0;
 
         // One row more than may be kept: a POINT is packed there to be looked up.
         final long[] rows = new long[(MOST_POINTS + 1) * WIDTH];
 
         // A POINT's number and 1; 0: free. There are more slots than POINTS.
-        private final int[] slots = new int[SLOTS];
+        private final long[] slots = new long[SLOTS / SLOTS_TOGETHER];
 
         void empty() {
             count = 0;
@@ -873,8 +870,8 @@ public final class TypeStarts {
             int at = count * WIDTH;
             run.pack(rows, at);
             int slot = firstSlot(at);
-            for (int tries = 0; tries < SLOTS && slots[slot] != 0; tries++) {
-                if (isSame((slots[slot] - 1) * WIDTH, at)) {
+            for (int tries = 0; tries < SLOTS && slotAt(slot) != 0; tries++) {
+                if (isSame((slotAt(slot) - 1) * WIDTH, at)) {
                     return OLD;
                 }
                 slot = slot + 1 & SLOTS - 1;
@@ -882,9 +879,18 @@ public final class TypeStarts {
             if (count >= MOST_POINTS) {
                 return FULL;
             }
-            slots[slot] = count + 1;
             count++;
+            fillSlot(slot, count);
             return count - 1;
+        }
+
+        private int slotAt(int slot) {
+            long together = slots[slot / SLOTS_TOGETHER];
+            return (int) (together >>> slot % SLOTS_TOGETHER * SLOT_WIDTH) & (1 << SLOT_WIDTH) - 1;
+        }
+
+        private void fillSlot(int free, int number) {
+            slots[free / SLOTS_TOGETHER] |= (long) number << free % SLOTS_TOGETHER * SLOT_WIDTH;
         }
 
         private int firstSlot(int at) {
@@ -902,16 +908,20 @@ public final class TypeStarts {
 
     /** The OUTCOMES in order, each with its WITNESS. */
     private static final class Outcomes {
+        // A STEP's THREAD takes two bits, so a row of a WITNESS is a few longs.
+        private static final int STEP_BITS = 2, STEPS_TOGETHER = 64 / STEP_BITS;
+        private static final int ROW_LONGS = (MOST_STEPS + STEPS_TOGETHER - 1) / STEPS_TOGETHER;
         int count = 0;
         private final long[] packed = new long[MOST_OUTCOMES];
 
         // Rows of WITNESSES stay where they came: here is which one an OUTCOME has.
         private final int[] row = new int[MOST_OUTCOMES];
         private final int[] lengths = new int[MOST_OUTCOMES];
-        private final byte[] witnesses = new byte[MOST_OUTCOMES * MOST_STEPS];
+        private final long[] witnesses = new long[MOST_OUTCOMES * ROW_LONGS];
 
         void empty() {
             count = 0;
+            Arrays.fill(witnesses, 0);
         }
 
         /** Keeps an OUTCOME, if it is new, with the way to it; false: there is no room. */
@@ -938,10 +948,11 @@ public final class TypeStarts {
         }
 
         private void keepWitness(int rowNumber, int[] way, int length) {
-            lengths[rowNumber] = length;
+            int first = rowNumber * ROW_LONGS;
             for (int k = 0; k < length; k++) {
-                witnesses[rowNumber * MOST_STEPS + k] = (byte) way[k];
+                witnesses[first + k / STEPS_TOGETHER] |= (long) way[k] << k % STEPS_TOGETHER * STEP_BITS;
             }
+            lengths[rowNumber] = length;
         }
 
         int countStuck() {
@@ -981,7 +992,8 @@ public final class TypeStarts {
             if (i < 0 || i >= count || k < 0 || k >= lengths[row[i]]) {
                 return NONE;
             }
-            return witnesses[row[i] * MOST_STEPS + k];
+            long together = witnesses[row[i] * ROW_LONGS + k / STEPS_TOGETHER];
+            return (int) (together >>> k % STEPS_TOGETHER * STEP_BITS) & (1 << STEP_BITS) - 1;
         }
     }
 
