@@ -68,7 +68,7 @@ public final class ModelTest {
         int odd = below(40);
         if (odd == 0) return -1;
         if (odd == 1) return n;
-        if (odd == 2) return random.nextInt();
+        if (odd == 2) return below(3) == 0 ? random.nextInt() : below(2) == 0 ? Integer.MIN_VALUE : Integer.MAX_VALUE;
         return n <= 0 ? 0 : below(n);
     }
 

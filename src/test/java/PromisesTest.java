@@ -1,84 +1,34 @@
 /** For each promise of the document calls whose answers were worked out by hand from its words. */
-public final class PromisesTest {
-    private static final int NONE = TypeStarts.NONE, BAD = TypeStarts.BAD;
-    private static final int STATE = TypeStarts.STATE, FULL = TypeStarts.FULL;
-    private static final int LEAST = Integer.MIN_VALUE, MOST = Integer.MAX_VALUE;
-
-    private static int wrong = 0;
-    private static int promise = 0;
-
-    private static void due(String call, int got, int want) {
-        if (got != want) {
-            wrong++;
-            System.out.println("promise " + promise + ": " + call + " answered " + got + ", due is " + want);
-        }
-    }
-
+public final class PromisesTest extends Cases {
     public static void main(String[] args) {
-        promise = 1; newObject();
-        promise = 2; type();
-        promise = 3; face();
-        promise = 4; field();
-        promise = 5; thread();
-        promise = 6; clear();
-        promise = 7; action();
-        promise = 8; begin();
-        promise = 9; turn(); turnThrows(); turnLeaves();
-        promise = 10; go();
-        promise = 11; steps();
-        promise = 12; state();
-        promise = 13; in();
-        promise = 14; value();
-        promise = 15; end();
-        promise = 16; waits();
-        promise = 17; start();
-        promise = 18; log();
-        promise = 19; list();
-        promise = 20; through();
-        promise = 21; needs();
-        promise = 22; search(); searchLimits();
-        promise = 23; points();
-        promise = 24; stuck();
-        promise = 25; outcome();
-        promise = 26; witness();
-        promise = 27; holds();
-        System.out.println(wrong == 0 ? "all promises hold" : wrong + " answers are not as due");
-        if (wrong != 0) System.exit(1);
-    }
-
-    private static TypeStarts classes(int types, int threads) {
-        TypeStarts x = new TypeStarts();
-        for (int i = 0; i < types; i++) {
-            x.type(0, -1);
-            x.field(i);
-        }
-        for (int i = 0; i < threads; i++) x.thread();
-        return x;
-    }
-
-    /** Two CLASSES that use one another, and a THREAD for each: they stick, if both have begun. */
-    private static TypeStarts ring() {
-        TypeStarts x = classes(2, 2);
-        x.action(0, 2, 1, 0, false);
-        x.action(1, 2, 0, 0, false);
-        x.action(10, 2, 0, 0, false);
-        x.action(11, 2, 1, 0, false);
-        return x;
-    }
-
-    private static void turns(TypeStarts x, int... threads) {
-        for (int t : threads) due("turn(" + t + ")", x.turn(t), 1);
-    }
-
-    private static void row(TypeStarts x, int i, int thread, int event, int number) {
-        due("log(" + i + ", 0)", x.log(i, 0), thread);
-        due("log(" + i + ", 1)", x.log(i, 1), event);
-        due("log(" + i + ", 2)", x.log(i, 2), number);
-    }
-
-    private static void listIs(TypeStarts x, int type, int... entries) {
-        for (int i = 0; i < entries.length; i++) due("list(" + type + ", " + i + ")", x.list(type, i), entries[i]);
-        due("list(" + type + ", " + entries.length + ")", x.list(type, entries.length), NONE);
+        about("promise 1"); newObject();
+        about("promise 2"); type();
+        about("promise 3"); face();
+        about("promise 4"); field();
+        about("promise 5"); thread();
+        about("promise 6"); clear();
+        about("promise 7"); action();
+        about("promise 8"); begin();
+        about("promise 9"); turn(); turnThrows(); turnLeaves();
+        about("promise 10"); go();
+        about("promise 11"); steps();
+        about("promise 12"); state();
+        about("promise 13"); in();
+        about("promise 14"); value();
+        about("promise 15"); end();
+        about("promise 16"); waits();
+        about("promise 17"); start();
+        about("promise 18"); log();
+        about("promise 19"); list();
+        about("promise 20"); through();
+        about("promise 21"); needs();
+        about("promise 22"); search(); searchLimits();
+        about("promise 23"); points();
+        about("promise 24"); stuck();
+        about("promise 25"); outcome();
+        about("promise 26"); witness();
+        about("promise 27"); holds();
+        endWith("all promises hold");
     }
 
     private static void newObject() {
@@ -581,15 +531,8 @@ public final class PromisesTest {
         mostSteps();
     }
 
-    /** Six STARTS of five ACTIONS and three THREADS of five: no RUN has more STEPS or more rows. */
     private static void mostSteps() {
-        TypeStarts x = classes(6, 3);
-        for (int t = 0; t < 6; t++) {
-            for (int i = 0; i < 5; i++) x.action(t, 0, t, 0, false);
-        }
-        for (int h = 0; h < 3; h++) {
-            for (int i = 0; i < 5; i++) x.action(10 + h, 0, Math.min(5, h == 2 ? 5 : i), 0, false);
-        }
+        TypeStarts x = longest();
         due("go(0)", x.go(0), 66);
         due("steps()", x.steps(), 66);
         due("log(59, 1)", x.log(59, 1), 5);
@@ -634,7 +577,6 @@ public final class PromisesTest {
     }
 
     private static void value() {
-        fieldBehindAction();
         TypeStarts x = classes(1, 1);
         x.type(0, 0);
         x.action(0, 1, 1, -9, false);
@@ -648,20 +590,6 @@ public final class PromisesTest {
         turns(x, 0, 0);
         due("value(0)", x.value(0), 9);
         due("state(1), the FIELD's own TYPE alone has begun", x.state(1), 0);
-    }
-
-    /** What an ACTION asks for is told by the FIELDS that there are, not by those that there were. */
-    private static void fieldBehindAction() {
-        TypeStarts x = new TypeStarts();
-        x.type(0, -1);
-        x.thread();
-        x.action(10, 1, 0, 4, false);
-        x.go(0);
-        due("end(0)", x.end(0), 7);
-        x.field(0);
-        x.go(0);
-        due("end(0)", x.end(0), 2);
-        due("value(0)", x.value(0), 4);
     }
 
     private static void end() {
@@ -945,22 +873,6 @@ public final class PromisesTest {
         due("state(1)", x.state(1), 1);
     }
 
-    /** THREADS that have nothing to do with one another, of 9, 14 and any number of STEPS. */
-    private static TypeStarts apart(int lastSteps) {
-        TypeStarts x = classes(6, 3);
-        int[] passes = {4, 5, 0, 5, lastSteps - 18, 0};
-        for (int t = 0; t < 6; t++) {
-            for (int i = 0; i < passes[t]; i++) x.action(t, 3, 0, 0, false);
-        }
-        x.action(10, 2, 0, 0, false);
-        x.action(11, 2, 1, 0, false);
-        x.action(11, 2, 2, 0, false);
-        x.action(12, 2, 3, 0, false);
-        x.action(12, 2, 4, 0, false);
-        x.action(12, 2, 5, 0, false);
-        return x;
-    }
-
     private static void searchLimits() {
         TypeStarts x = apart(19);
         due("search() of 10 * 15 * 20 POINTS", x.search(), 1);
@@ -980,7 +892,6 @@ public final class PromisesTest {
         turns(x, 0);
         due("search() behind a STEP", x.search() > 0 ? 1 : 0, 1);
         due("points() are fewer", x.points() <= 3000 ? 1 : 0, 1);
-        outcomeLimits();
     }
 
     private static TypeStarts pointsJustTooMany() {
@@ -1004,40 +915,6 @@ public final class PromisesTest {
         return x;
     }
 
-    /** Six CLASSES, each the PARENT of the next, that THREAD 0 starts in its first 19 STEPS. */
-    private static TypeStarts writers(int[][] writes) {
-        TypeStarts x = new TypeStarts();
-        for (int t = 0; t < 6; t++) {
-            x.type(0, t - 1);
-            x.field(t);
-        }
-        for (int h = 0; h < 3; h++) x.thread();
-        x.action(10, 2, 5, 0, false);
-        for (int[] w : writes) x.action(w[0], 1, w[1], w[2], false);
-        for (int i = 0; i < 19; i++) turns(x, 0);
-        return x;
-    }
-
-    private static void outcomeLimits() {
-        TypeStarts x = writers(new int[][] {
-            {10, 1, 1}, {10, 0, 3}, {10, 2, 4}, {10, 3, 1},
-            {11, 0, 2}, {11, 1, 2}, {11, 2, 2}, {11, 3, 2}, {11, 4, 2},
-            {12, 1, 3}, {12, 2, 3}, {12, 4, 3}});
-        due("search() of 60 OUTCOMES", x.search(), 60);
-        due("outcome(59, 0)", x.outcome(59, 0), 2);
-        due("outcome(60, 0)", x.outcome(60, 0), -1000);
-        due("witness(59, 0)", x.witness(59, 0) >= 0 ? 1 : 0, 1);
-        due("witness(60, 0)", x.witness(60, 0), NONE);
-        x = writers(new int[][] {
-            {10, 4, 1}, {10, 3, 1}, {10, 5, 1}, {10, 2, 1},
-            {11, 4, 2}, {11, 3, 2}, {11, 1, 2}, {11, 2, 2},
-            {12, 2, 3}, {12, 4, 0}, {12, 5, 3}, {12, 3, 3}, {12, 1, 3}});
-        due("search() of 61 OUTCOMES", x.search(), FULL);
-        due("stuck()", x.stuck(), STATE);
-        due("outcome(0, 0)", x.outcome(0, 0), -1000);
-        due("witness(0, 0)", x.witness(0, 0), STATE);
-    }
-
     private static void points() {
         TypeStarts x = new TypeStarts();
         x.search();
@@ -1056,68 +933,7 @@ public final class PromisesTest {
         turns(x, 0);
         x.search();
         due("points()", x.points(), 4);
-        pointsOfLists();
-        pointsOfLatest();
         pointsOfLeaves();
-        pointsOfFailures();
-    }
-
-    /** Of a TYPE that FAILED it does not count where it was when it did. */
-    private static void pointsOfFailures() {
-        TypeStarts x = classes(1, 2);
-        x.type(0, 0);
-        x.action(0, 2, 1, 0, true);
-        x.action(0, 4, 1, 0, false);
-        x.action(1, 4, 1, 0, false);
-        x.action(10, 2, 0, 0, true);
-        x.action(11, 2, 1, 0, true);
-        // By THREAD 0 alone 1 fails in its BODY, and 0 behind it; by THREAD 1 alone 0 fails, and
-        // so 1 in its LIST. THREAD 1 is ahead of its ACTION, if nothing else is said.
-        int bothNew = 1;
-        int zeroBegun = 2;
-        int oneBegunElsewhereToo = 2;
-        int oneBegunAbove = 2;
-        int oneFailed = 3;
-        int zeroFailedBehindIt = 3 + 3;
-        int oneBegunFirst = 1;
-        int zeroBegunFromThere = 3;
-        int bothFailedAndThread0Ahead = 2;
-        x.search();
-        due("points()", x.points(), bothNew + zeroBegun + oneBegunElsewhereToo + oneBegunAbove + oneFailed
-            + zeroFailedBehindIt + oneBegunFirst + zeroBegunFromThere + bothFailedAndThread0Ahead);
-    }
-
-    /** A LIST whose PARENT BEGAN from there is not where one is that found it DONE. */
-    private static void pointsOfLists() {
-        TypeStarts x = new TypeStarts();
-        x.type(0, -1);
-        x.type(0, 0);
-        x.thread();
-        x.thread();
-        x.action(10, 2, 1, 0, false);
-        x.action(11, 2, 0, 0, false);
-        // 0 is NEW: THREAD 0 ahead of all or in 1's LIST.
-        int isNew = 2;
-        // 0 is UNDER WAY: in THREAD 0, in its LIST or BODY; in THREAD 1 so, THREAD 0 as above.
-        int isUnderWay = 2 + 2 * 2;
-        // 0 is DONE: THREAD 1 ahead of its ACTION, behind it, or ended; THREAD 0 ahead of all, in
-        // 1's LIST with nothing begun, in it behind 0, in 1's BODY, 1 DONE, behind its ACTION, or ended.
-        int isDone = 3 * 7;
-        x.search();
-        due("points()", x.points(), isNew + isUnderWay + isDone);
-    }
-
-    /** LATEST counts, even where no ACTION looks at it. */
-    private static void pointsOfLatest() {
-        TypeStarts x = classes(1, 2);
-        x.action(10, 2, 0, 0, false);
-        x.action(10, 1, 0, 1, false);
-        x.action(11, 0, 0, 0, false);
-        turns(x, 0, 0, 0, 0);
-        // THREAD 0: ahead of the WRITE, behind it, ended. THREAD 1: ahead, behind with 0 or 1, ended.
-        x.search();
-        due("points()", x.points(), 3 * 3 + 2);
-        due("search()", x.search(), 1);
     }
 
     /** A BODY that was left is as one behind its last ACTION. */
@@ -1195,13 +1011,6 @@ public final class PromisesTest {
         due("outcome(0, 9)", x.outcome(0, 9), 3);
     }
 
-    private static void witnessIs(TypeStarts x, int i, int... threads) {
-        for (int k = 0; k < threads.length; k++) {
-            due("witness(" + i + ", " + k + ")", x.witness(i, k), threads[k]);
-        }
-        due("witness(" + i + ", " + threads.length + ")", x.witness(i, threads.length), NONE);
-    }
-
     private static void witness() {
         TypeStarts x = ring();
         due("witness(0, 0)", x.witness(0, 0), STATE);
@@ -1220,7 +1029,6 @@ public final class PromisesTest {
         x.go(0);
         x.search();
         witnessIs(x, 0);
-        longestWitness();
         x = classes(1, 2);
         x.action(10, 1, 0, 5, false);
         x.action(11, 1, 0, 4, false);
@@ -1228,23 +1036,6 @@ public final class PromisesTest {
         // 4 is last: THREAD 0 first; 5 is last: THREAD 0 starts the TYPE, then lets 1 WRITE.
         witnessIs(x, 0, 0, 0, 0, 0, 0, 1, 1);
         witnessIs(x, 1, 0, 0, 0, 1, 0, 0, 1);
-    }
-
-    /** THREAD 0 starts all TYPES, the others pass: 55 * 7 * 7 POINTS, and no RUN has more STEPS. */
-    private static void longestWitness() {
-        TypeStarts x = classes(6, 3);
-        for (int t = 0; t < 6; t++) {
-            for (int i = 0; i < 5; i++) x.action(t, i == 4 && t == 4 ? 2 : 3, 5, 0, false);
-        }
-        for (int i = 0; i < 5; i++) {
-            x.action(10, 2, i, 0, false);
-            x.action(11, 3, 0, 0, false);
-            x.action(12, 3, 0, 0, false);
-        }
-        due("search()", x.search(), 1);
-        due("points()", x.points(), 55 * 7 * 7);
-        for (int k = 0; k < 66; k++) due("witness(0, " + k + ")", x.witness(0, k), k < 54 ? 0 : k < 60 ? 1 : 2);
-        due("witness(0, 66)", x.witness(0, 66), NONE);
     }
 
     private static void holds() {

@@ -1,0 +1,98 @@
+import java.io.IOException;
+import java.lang.reflect.InvocationTargetException;
+import java.lang.reflect.Method;
+import java.nio.file.Files;
+import java.nio.file.Path;
+import java.util.ArrayList;
+import java.util.Comparator;
+import java.util.List;
+
+/**
+ * Runs the tests of all sentences that name a boundary case, and compares the words that they
+ * quote with the document: each stands in it, and no part of a promise is without a test.
+ */
+public final class EdgesTest extends Cases {
+    private static final Path DOCUMENT = Path.of("../shared/DOC.md");
+    private static final Class<?>[] PARTS = {BuildEdges.class, RunEdges.class, SearchEdges.class};
+    private static final int PROMISES = 27;
+
+    // Of promise 27: THE THEOREM is true, so no calls lead to it. Of THREADS that WAIT for one another
+    // each TYPE that is waited for NEEDS the next one, round to itself.
+    private static final String NEVER = "else 0";
+
+    public static void main(String[] args) throws IOException, IllegalAccessException {
+        List<Method> tests = tests();
+        for (Method test : tests) run(test);
+        if (Files.exists(DOCUMENT)) compareWithDocument(tests, Files.readString(DOCUMENT));
+        else System.out.println("no document at " + DOCUMENT + ": what the tests quote was not compared with it");
+        endWith(tests.size() + " sentences hold at their boundaries, by " + compared() + " answers");
+    }
+
+    private static List<Method> tests() {
+        List<Method> tests = new ArrayList<>();
+        for (Class<?> part : PARTS) {
+            for (Method m : part.getDeclaredMethods()) {
+                if (m.isAnnotationPresent(Edge.class)) tests.add(m);
+            }
+        }
+        // The Java machine tells methods in no order of its own.
+        tests.sort(Comparator.comparingInt(EdgesTest::promiseOf).thenComparing(Method::getName));
+        return tests;
+    }
+
+    private static int promiseOf(Method test) {
+        return test.getAnnotation(Edge.class).promise();
+    }
+
+    private static String wordsOf(Method test) {
+        return test.getAnnotation(Edge.class).says();
+    }
+
+    private static void run(Method test) throws IllegalAccessException {
+        about("promise " + promiseOf(test) + ", \"" + wordsOf(test) + "\", " + test.getName());
+        int before = compared();
+        try {
+            test.invoke(null);
+        } catch (InvocationTargetException e) {
+            fail("a call threw " + e.getCause());
+        }
+        if (compared() == before) fail("it compares nothing");
+    }
+
+    private static void compareWithDocument(List<Method> tests, String document) {
+        String terms = between(document, "## What it is", "## Promise 1:");
+        for (int promise = 1; promise <= PROMISES; promise++) {
+            about("promise " + promise);
+            String end = promise < PROMISES ? "## Promise " + (promise + 1) + ":" : "## Not promised";
+            String own = between(document, "## Promise " + promise + ":", end);
+            List<String> quoted = new ArrayList<>();
+            for (Method test : tests) {
+                if (promiseOf(test) != promise) continue;
+                String words = wordsOf(test);
+                quoted.add(words);
+                if (!own.contains(words) && !terms.contains(words)) fail("the document does not say: " + words);
+            }
+            checkAllQuoted(own, quoted);
+        }
+    }
+
+    private static String between(String text, String from, String to) {
+        int start = text.indexOf(from);
+        int end = text.indexOf(to, Math.max(0, start));
+        if (start < 0 || end < 0) {
+            fail("the document has no part from " + from + " to " + to);
+            return "";
+        }
+        return text.substring(start, end);
+    }
+
+    /** Each part of a promise, up to a full stop or a semicolon, is quoted, or some words of it are. */
+    private static void checkAllQuoted(String own, List<String> quoted) {
+        String promise = own.substring(own.lastIndexOf("`: ") + 3).trim();
+        for (String part : promise.split("[.;](\\s+|$)")) {
+            boolean isQuoted = part.equals(NEVER);
+            for (String words : quoted) isQuoted |= words.contains(part) || part.contains(words);
+            if (!isQuoted) fail("no test quotes: " + part);
+        }
+    }
+}
