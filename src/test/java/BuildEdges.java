@@ -42,6 +42,8 @@ final class BuildEdges extends Cases {
         for (int body = 10; body <= 12; body++) due("action(" + body + ", 4)", x.action(body, 4, 1, 0, false), NONE);
         due("go(0)", x.go(0), 0);
         due("steps()", x.steps(), 0);
+        for (int what = 0; what <= 2; what++) due("log(0, " + what + ")", x.log(0, what), NO_NUMBER);
+        due("begin()", x.begin(), 0);
     }
 
     @Edge(promise = 1, says = "An object is used for at most 512 calls after it has been made")
