@@ -25,7 +25,7 @@ public final class EdgesTest extends Cases {
         for (Method test : tests) run(test);
         if (Files.exists(DOCUMENT)) compareWithDocument(tests, Files.readString(DOCUMENT));
         else System.out.println("no document at " + DOCUMENT + ": what the tests quote was not compared with it");
-        endWith(tests.size() + " sentences hold at their boundaries, by " + compared() + " answers");
+        endWith(tests.size() + " tests of sentences that name a boundary case hold, by " + compared() + " answers");
     }
 
     private static List<Method> tests() {
