@@ -1,10 +1,15 @@
+import java.io.IOException;
 import java.lang.reflect.Constructor;
 import java.lang.reflect.Field;
 import java.lang.reflect.Method;
 import java.lang.reflect.Modifier;
+import java.nio.file.Files;
+import java.nio.file.Path;
 import java.util.Arrays;
 import java.util.Set;
 import java.util.TreeSet;
+import java.util.regex.Matcher;
+import java.util.regex.Pattern;
 
 /** The class shows the document's face and nothing else, and keeps to what LANGUAGE.md says of members. */
 public final class FaceTest {
@@ -15,6 +20,9 @@ public final class FaceTest {
         "log(int, int)", "list(int, int)", "through(int)", "needs(int, int)", "search()",
         "points()", "stuck()", "outcome(int, int)", "witness(int, int)", "holds()"};
 
+    private static final Path DOCUMENT = Path.of("../shared/DOC.md");
+    private static final Pattern DOCUMENT_LINE = Pattern.compile("(?m)^    public int (\\w+\\(.*\\));$");
+
     private static int wrong = 0;
 
     private static void check(boolean good, String what) {
@@ -24,7 +32,7 @@ public final class FaceTest {
         }
     }
 
-    public static void main(String[] args) {
+    public static void main(String[] args) throws IOException {
         Class<?> c = TypeStarts.class;
         check(Modifier.isPublic(c.getModifiers()) && Modifier.isFinal(c.getModifiers()), "public and final");
         check(c.getDeclaredConstructors().length == 1, "one constructor");
@@ -34,6 +42,8 @@ public final class FaceTest {
         checkMethods(c);
         checkFields(c);
         checkConstants();
+        if (Files.exists(DOCUMENT)) checkDocument(Files.readString(DOCUMENT));
+        else System.out.println("no document at " + DOCUMENT + ": the face was not compared with it");
         int classes = 1;
         for (Class<?> inner : c.getDeclaredClasses()) {
             classes++;
@@ -94,6 +104,13 @@ public final class FaceTest {
             }
         }
         check(own <= 20, c + " has at most twenty fields");
+    }
+
+    private static void checkDocument(String document) {
+        Set<String> told = new TreeSet<>();
+        Matcher line = DOCUMENT_LINE.matcher(document);
+        while (line.find()) told.add(line.group(1).replaceAll("(int|boolean) \\w+", "$1"));
+        check(told.equals(new TreeSet<>(Arrays.asList(FACE))), "the document's face is " + told);
     }
 
     private static void checkConstants() {

@@ -127,7 +127,7 @@ final class RunEdges extends Cases {
         due("state(5)", x.state(5), 2);
     }
 
-    @Edge(promise = 9, says = "those of the LIST that are DONE, or UNDER WAY in this THREAD, are passed over")
+    @Edge(promise = 9, says = "- a START in its LIST: those of the LIST that are DONE, or UNDER WAY in this THREAD, are passed over")
     static void aWholeListThatIsDoneIsPassedOverInOneStep() {
         TypeStarts x = longestList();
         for (int t = 0; t <= 2; t++) x.action(10, 2, t, 0, false);
@@ -219,7 +219,7 @@ final class RunEdges extends Cases {
         }
     }
 
-    @Edge(promise = 9, says = "(0, 1: that whose FIELD it is; 2: a)")
+    @Edge(promise = 9, says = "- a BODY ahead of an ACTION that ASKS FOR a TYPE (0, 1: that whose FIELD it is; 2: a)")
     static void aReadOrWriteBeginsTheFieldsOwnTypeAlone() {
         for (int kind = 0; kind <= 2; kind++) {
             TypeStarts x = sorts(0);
@@ -343,7 +343,7 @@ final class RunEdges extends Cases {
         due("value(0)", x.value(0), 4);
     }
 
-    @Edge(promise = 9, says = "1 of an INTERFACE's FIELD but in that INTERFACE's own BODY: 5 is thrown by the ACTION")
+    @Edge(promise = 9, says = "and 1 of an INTERFACE's FIELD but in that INTERFACE's own BODY: 5 is thrown by the ACTION")
     static void writeOfAnInterfacesFieldFromOutside() {
         for (int sort = 1; sort <= 2; sort++) {
             TypeStarts x = sorts(sort, sort, 0);
@@ -486,7 +486,7 @@ final class RunEdges extends Cases {
         }
     }
 
-    @Edge(promise = 9, says = "if it is GUARDED, that is CAUGHT, and the BODY is behind the ACTION")
+    @Edge(promise = 9, says = "THROWN by an ACTION: if it is GUARDED, that is CAUGHT, and the BODY is behind the ACTION")
     static void aGuardAtTheLastAction() {
         TypeStarts x = classes(1, 1);
         for (int i = 0; i < 4; i++) x.action(0, 3, 0, 0, false);
@@ -557,7 +557,7 @@ final class RunEdges extends Cases {
         }
     }
 
-    @Edge(promise = 9, says = "its TYPE is FAILED, it stands there no more")
+    @Edge(promise = 9, says = "THROWN by a START: its TYPE is FAILED, it stands there no more")
     static void whatFailedDoesNotStandInItsThread() {
         TypeStarts x = classes(2, 1);
         x.action(0, 4, 1, 0, false);
@@ -623,7 +623,7 @@ final class RunEdges extends Cases {
         }
     }
 
-    @Edge(promise = 10, says = "z (the seed at first) becomes z * 1664525 + 1013904223 (wrapping)")
+    @Edge(promise = 10, says = "each time z (the seed at first) becomes z * 1664525 + 1013904223 (wrapping)")
     static void theLeastAndTheMostSeedWrapAround() {
         goesBy(MOST, "01101211120222200");
         goesBy(LEAST, "12020212000221111");
@@ -637,7 +637,7 @@ final class RunEdges extends Cases {
         goesBy(-77, "21101200122110202");
     }
 
-    @Edge(promise = 10, says = "of the n THREADS that have a STEP the one at place (z >>> 8) % n of them makes it")
+    @Edge(promise = 10, says = "and of the n THREADS that have a STEP the one at place (z >>> 8) % n of them makes it")
     static void aThreadThatHasEndedOrWaitsHasNoPlace() {
         TypeStarts x = readers();
         manyTurns(x, 0, 5);

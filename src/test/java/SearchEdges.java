@@ -152,7 +152,7 @@ final class SearchEdges extends Cases {
         }
     }
 
-    @Edge(promise = 21, says = "(so perhaps itself, by way of others)")
+    @Edge(promise = 21, says = "and what that one NEEDS (so perhaps itself, by way of others)")
     static void aRingOfTwoAndOfSix() {
         TypeStarts x = ring();
         for (int t = 0; t < 4; t++) due("needs(" + t / 2 + ", " + t % 2 + ")", x.needs(t / 2, t % 2), 1);
