@@ -174,6 +174,13 @@ final class TermsCases extends Cases {
         x.action(10, 2, 1, 0, false);
         x.action(11, 1, 0, 3, false);
         isWhatAllTurnsTell(x, 2);
+        // Late in the RUN it is told which WRITE is the last one.
+        x = classes(1, 2);
+        x.action(10, 2, 0, 0, false);
+        x.action(10, 3, 0, 0, false);
+        x.action(10, 1, 0, 1, false);
+        x.action(11, 1, 0, 2, false);
+        isWhatAllTurnsTell(x, 2);
         // A PARENT that is UNDER WAY and needs its own child: each is begun first by one THREAD.
         x = sorts(0);
         x.type(0, 0);
@@ -195,9 +202,9 @@ final class TermsCases extends Cases {
             x = sorts(sort, 0);
             due("a FACE of sort " + sort, x.face(1, 0), sort == 0 ? STATE : 1);
             due("list(1, 0)", x.list(1, 0), sort == 2 ? 0 : NONE);
-            x = sorts(2);
-            due("a PARENT for sort " + sort, x.type(sort, 0), STATE);
-            x.type(sort, -1);
+            x = sorts(0);
+            due("a PARENT for sort " + sort, x.type(sort, 0), sort == 0 ? 1 : STATE);
+            x = sorts(2, sort);
             due("a FACE for sort " + sort, x.face(1, 0), 1);
             due("list(1, 0)", x.list(1, 0), sort == 0 ? 0 : NONE);
         }
